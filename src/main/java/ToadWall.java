@@ -55,7 +55,7 @@ public final class ToadWall {
     }
 
     public int blocks(int shelf, int i, int n) {
-        if (!isShelf(shelf) || i < 0 || !within(n, 1, BLOCKS)) return BAD;
+        if (!isShelf(shelf) || !within(n, 1, BLOCKS)) return BAD;
         Shelf from = shelves[shelf];
         if (from.isBare()) return 0;
         if (!from.isRowOfBytes()) return OTHER_KIND;
@@ -65,7 +65,7 @@ public final class ToadWall {
     }
 
     private boolean cameFrom(Shelf from, int place) {
-        if (quarry.isFull() || place > from.size() - 3) return false;
+        if (quarry.isFull() || !from.hasPlaces(place, 3)) return false;
         int bed = (int) from.at(place), at = (int) from.at(place + 1), lives = (int) from.at(place + 2);
         if (!Quarry.isSo(BED, bed) || !Quarry.isSo(AT, at) || !Quarry.isSo(LIVES, lives)) return false;
         quarry.add(bed, at, lives);

@@ -4,6 +4,7 @@ public final class BlocksTest {
         aNewObject();
         block();
         blocks();
+        blocksFromBelow0();
         blocksThatEnd();
         mend();
         mendWrongly();
@@ -67,7 +68,6 @@ public final class BlocksTest {
         Check.due("3: blocks(6, 0, 1)", x.blocks(6, 0, 1), ToadWall.BAD);
         Check.due("3: blocks(2, 1, 0)", x.blocks(2, 1, 0), ToadWall.BAD);
         Check.due("3: blocks(2, 1, 11)", x.blocks(2, 1, 11), ToadWall.BAD);
-        Check.due("3: blocks(2, -1, 1)", x.blocks(2, -1, 1), ToadWall.BAD);
         Check.due("3: BAD comes ahead of -12", x.row(3, 2, 9) * x.blocks(3, 0, 0), ToadWall.BAD);
         Check.due("3: a row of ints", x.blocks(3, 0, 1), -12);
         x.body(0);
@@ -75,6 +75,26 @@ public final class BlocksTest {
         Check.due("3: a toad", x.blocks(4, 0, 1), -12);
         Check.due("3: a shelf that holds nothing", x.blocks(5, 0, 3), 0);
         Check.due("3: still three", x.count(0), 3);
+    }
+
+    // No range is told for the place: where it is below 0 nothing is there, and none comes.
+    private static void blocksFromBelow0() {
+        int[] below = {-1, -2, -3, -30, Integer.MIN_VALUE};
+        for (int place : below) {
+            ToadWall x = Check.row(new ToadWall(), 2, 0, 1, 2, 3, 4, 5, 6);
+            Check.due("3: a new object, from place " + place, new ToadWall().blocks(0, place, 1), 0);
+            Check.due("3: a shelf that holds nothing, from place " + place, x.blocks(0, place, 10), 0);
+            Check.due("3: a row of bytes, from place " + place, x.blocks(2, place, 10), 0);
+            x.row(3, 1, 9);
+            Check.due("3: a row of shorts, from place " + place, x.blocks(3, place, 1), -12);
+            x.body(2);
+            x.keep(4, 0);
+            Check.due("3: a toad, from place " + place, x.blocks(4, place, 1), -12);
+            Check.due("3: no such shelf, from place " + place, x.blocks(6, place, 1), ToadWall.BAD);
+            Check.due("3: n 0, from place " + place, x.blocks(2, place, 0), ToadWall.BAD);
+            Check.due("3: n 11, from place " + place, x.blocks(0, place, 11), ToadWall.BAD);
+            Check.due("3: none came from place " + place, x.count(0), 0);
+        }
     }
 
     private static void blocksThatEnd() {

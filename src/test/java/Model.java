@@ -229,7 +229,7 @@ public final class Model {
     }
 
     public int blocks(int shelf, int i, int n) {
-        if (shelf < 0 || shelf > 5 || i < 0 || n < 1 || n > 10) return BAD;
+        if (shelf < 0 || shelf > 5 || n < 1 || n > 10) return BAD;
         if (shelves[shelf] != null && !(shelves[shelf] instanceof byte[])) return -12;
         byte[] row = (byte[]) shelves[shelf];
         int came = 0;

@@ -164,7 +164,7 @@ public final class ModelTest {
             case "hours": a[0] = random.nextInt(5); break;
             case "row": a[1] = random.nextInt(3) == 0 ? random.nextInt(5) : 0; a[2] = random.nextInt(random.nextInt(6) == 0 ? 64 : 9) - random.nextInt(2); break;
             case "put": a[1] = random.nextInt(10) - random.nextInt(2); break;
-            case "blocks": a[1] = random.nextInt(6); break;
+            case "blocks": a[1] = random.nextInt(8) - 2; break;
             case "shift": for (int i = 1; i < 5; i++) if (i != 2) a[i] = random.nextInt(6) - random.nextInt(2); break;
             case "act": a[1] = random.nextInt(5); a[2] = random.nextInt(3) == 0 ? random.nextInt() : random.nextInt(50); break;
             default: break;
