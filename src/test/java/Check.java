@@ -1,8 +1,14 @@
 /** What the tests share: counting answers that are not as due, and short ways to bring a wall into a state. */
 final class Check {
     private static int asDue, wrong;
+    private static String sentence = "";
 
     private Check() { }
+
+    /** The sentence of the document that the next answers stand for. */
+    static void about(String itsSentence) {
+        sentence = itsSentence.isEmpty() ? "" : itsSentence + "\n    ";
+    }
 
     static void due(String call, long got, long want) {
         if (got == want) {
@@ -10,7 +16,7 @@ final class Check {
             return;
         }
         wrong++;
-        System.out.println(call + " answered " + got + ", due is " + want);
+        System.out.println(sentence + call + " answered " + got + ", due is " + want);
     }
 
     static void holds(String what, boolean so) {
