@@ -441,6 +441,7 @@ final class TermsEdges {
         ToadWall like = Check.wall(0);
         changeDue("of like ones the least: 0 to 8, not 1 to 9", like, 2, 9, 1, 8);
         changeDue("of like ones the least: 0 to 4, not 1 to 5", like, 2, 5, 1, 4);
+        changeDue("0 to none of them, but 1 to 1", like, 2, 1, 1, 17);
         Check.law(like, "y=39");
         changeDue("the step of the 40th century", like, 40, 1, 0, 256);
         changeDue("the step of the 40th century, changed", like, 40, 7, 1, 7);
